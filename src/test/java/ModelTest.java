@@ -4,7 +4,7 @@ import java.util.Random;
 
 /** Runs of calls by fixed seeds, the class held against the model call by call. */
 public final class ModelTest {
-    private static final int RUNS = 1500, CALLS = 500;
+    private static final int RUNS = 600, CALLS = 500;
     private static final int[] ODD = {Integer.MIN_VALUE, Integer.MAX_VALUE, -1, -2, 61, 1000, 128, 255, 256, 65536};
     private static final String[] WORDS = {"plain ", "tall ", "stooped ", "stool ", "line ", "lumbago ", "works "};
 

@@ -101,6 +101,7 @@ public final class ReignTest {
                 due("runs(" + n + ", " + what + ")", x.runs(n, what), behind[n][what]);
             }
         }
+        due("runs(0, 4) behind others", x.runs(0, 4), LeapKings.NONE);
         due("REIGNS are as they were", x.rule(1), 0);
         line(x, 0, 1, 2);
         x.reigns(2);
@@ -159,6 +160,9 @@ public final class ReignTest {
         due("again() of who fall", Checks.told("plain 9 20 1;plain 9 20 1;plain 9 20 1;").again(), 2);
         // All CLEAN: 0 1 2, 2 0 1, 1 2 0, 0 1 2.
         due("again() of three CLEAN", Checks.told("plain 9 1 1;plain 9 1 1;plain 9 1 1;").again(), 3);
+        // Found by a search, and played through by the model: the last that counts.
+        LeapKings late = Checks.told("stool 14 10 1;plain 18 11 1;tall 20 6 1;plain 13 5 1;stooped 11 5 1;lumbago 7;");
+        due("again() behind 60", late.again(), 60);
         due("again() of one", Checks.told("plain 1 1 1;").again(), LeapKings.STATE);
     }
 

@@ -105,6 +105,9 @@ public final class TextTest {
         faulty(";", 2, 0);
         faulty("  7 1 1;", 2, 2);
         faulty("king 1 1 1;", 2, 0);
+        faulty("a", 2, 0);
+        faulty("z", 2, 0);
+        faulty("pool 1 1 1;", 2, 0);
         faulty("plainer 1 1 1;", 2, 0);
         faulty("stoo 1 1 1;", 2, 0);
         faulty("plain1 1 1;plain", 2, 16);
@@ -185,6 +188,17 @@ public final class TextTest {
         due("HEIRS of nothing", x.rule(0), 0);
     }
 
+    private static void textsInTurn() {
+        LeapKings x = new LeapKings();
+        for (int i = 0; i < 3; i++) {
+            due("text() number " + i, Checks.tell(x, "line 0 1;lumbago 0;works 0;tall 0 1 1;tall 20 1 1;"), 5);
+            due("text() number " + i + ", faulty", Checks.tell(x, "line 0;lumbago 1;works 2;x"), -35);
+            due("text() number " + i + ", too many in line", Checks.tell(x, "line 0 1;"), -19);
+        }
+        due("HEIRS", x.rule(0), 2);
+        due("LUMBAGO", x.rule(3), 0);
+    }
+
     private static void height(int back, int plain, int tall, int stooped, int stool) {
         LeapKings x = Checks.told("plain 1 " + back + " 1;");
         int[] heights = {plain, tall, stooped, stool};
@@ -230,6 +244,7 @@ public final class TextTest {
         secondTimes();
         heirsThatAreNot();
         aTextTellsAll();
+        textsInTurn();
         heirsAsTold();
         CHECKS.finish();
     }
