@@ -640,12 +640,8 @@ public final class LeapKings {
         long weight = 1;
         for (int r = 0; r < n; r++) {
             boolean slip = (slips >> r & 1) == 1;
-            if (trial.clears()) {
-                weight *= slip ? v : 10 - v;
-            } else {
-                // Who falls anyway has no slip of his own: the other branch is not to be counted twice.
-                weight *= slip ? 0 : 10;
-            }
+            // Who falls anyway goes on alike by both ways, which are ten out of ten together.
+            weight *= slip ? v : 10 - v;
             if (weight == 0) {
                 return 0;
             }

@@ -1,11 +1,24 @@
 /** Counts the answers that are not as due; a test ends with exit code 1 if there was one. */
 final class Checks {
     private int wrong;
+    private String sentence = "";
+
+    /** The words of the document that the checks behind this one hold to; told with each wrong answer. */
+    void of(String words) {
+        sentence = "'" + words + "': ";
+    }
 
     void due(String call, long got, long want) {
         if (got != want) {
             wrong++;
-            System.out.println(call + " answered " + got + ", due is " + want);
+            System.out.println(sentence + call + " answered " + got + ", due is " + want);
+        }
+    }
+
+    void dueAll(String call, long[] got, long... want) {
+        due(call + ", how many", got.length, want.length);
+        for (int i = 0; i < Math.min(got.length, want.length); i++) {
+            due(call + ", number " + i, got[i], want[i]);
         }
     }
 
@@ -36,5 +49,20 @@ final class Checks {
             System.exit(1);
         }
         return x;
+    }
+
+    /** THE LINE, from its first PLACE on. */
+    static long[] lineOf(LeapKings x) {
+        long[] line = new long[x.rule(0)];
+        for (int i = 0; i < line.length; i++) {
+            line[i] = x.line(i);
+        }
+        return line;
+    }
+
+    static void layAll(LeapKings x, int k, int... cells) {
+        for (int i = 0; i < cells.length; i++) {
+            x.lay(k, i, cells[i]);
+        }
     }
 }
