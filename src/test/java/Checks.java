@@ -51,6 +51,13 @@ final class Checks {
         return x;
     }
 
+    static void reignAll(LeapKings x, int n) {
+        for (int i = 0; i < n / 30; i++) {
+            x.reigns(30);
+        }
+        x.reigns(n % 30);
+    }
+
     /** THE LINE, from its first PLACE on. */
     static long[] lineOf(LeapKings x) {
         long[] line = new long[x.rule(0)];

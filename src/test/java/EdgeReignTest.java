@@ -12,10 +12,7 @@ public final class EdgeReignTest {
 
     private static LeapKings afterReigns(String text, int n) {
         LeapKings x = Checks.told(text);
-        for (int i = 0; i < n / 30; i++) {
-            x.reigns(30);
-        }
-        x.reigns(n % 30);
+        Checks.reignAll(x, n);
         due("REIGNS", x.rule(1), n);
         return x;
     }

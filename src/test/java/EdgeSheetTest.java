@@ -385,10 +385,7 @@ public final class EdgeSheetTest {
 
     private static LeapKings withReigns(int n) {
         LeapKings x = Checks.told(TWO);
-        for (int i = 0; i < n / 30; i++) {
-            x.reigns(30);
-        }
-        x.reigns(n % 30);
+        Checks.reignAll(x, n);
         x.sheet(0, 0, 40);
         x.lay(0, 1, 5);
         return x;

@@ -55,10 +55,7 @@ enum Stage {
     private static LeapKings full() {
         LeapKings x = Checks.told("plain 9 5 7;tall 9 5 7;plain 9 8 7;stool 9 5 7;plain 20 5 7;plain 9 5 7;");
         x.keep(1);
-        for (int i = 0; i < 33; i++) {
-            x.reigns(30);
-        }
-        x.reigns(9);
+        Checks.reignAll(x, 999);
         for (int n = 1; n <= 6; n++) {
             x.see(n, x.runs(n, 4));
         }
