@@ -973,6 +973,9 @@ public final class LeapKings {
         int next;
         int value;
 
+        // Of the heir who is told at hand, by the numbers of his traits.
+        final int[] numbers = new int[TRAITS];
+
         // Who is told to be first; apart from the row, which grows as heirs are told behind it.
         final int[] front = new int[MOST_HEIRS];
         final boolean[] isFirst = new boolean[MOST_HEIRS];
@@ -1093,43 +1096,43 @@ public final class LeapKings {
             if (token != NAME) {
                 return fail(2, start);
             }
-            if (isNamed("plain")) {
-                return readHeir(PLAIN);
-            }
-            if (isNamed("tall")) {
-                return readHeir(TALL);
-            }
-            if (isNamed("stooped")) {
-                return readHeir(STOOPED);
-            }
-            if (isNamed("stool")) {
-                return readHeir(STOOL);
+            int kind = kindNamed();
+            if (kind != NONE) {
+                return readHeir(kind) && takeStop();
             }
             if (isNamed("line")) {
                 return readFirsts();
             }
             if (isNamed("lumbago")) {
-                return readLumbago();
+                return readLumbago() && takeStop();
             }
-            return isNamed("works") ? readWorks() : fail(2, start);
+            return isNamed("works") ? readWorks() && takeStop() : fail(2, start);
+        }
+
+        int kindNamed() {
+            if (isNamed("plain")) {
+                return PLAIN;
+            }
+            if (isNamed("tall")) {
+                return TALL;
+            }
+            if (isNamed("stooped")) {
+                return STOOPED;
+            }
+            return isNamed("stool") ? STOOL : NONE;
         }
 
         boolean readHeir(int kind) {
             if (told.heirs >= MOST_HEIRS) {
                 return fail(5, start);
             }
-            if (!takeWithin(LEAST[SPRING], GREATEST[SPRING])) {
-                return false;
+            for (int what = SPRING; what <= TERM; what++) {
+                if (!take() || !isNumberWithin(LEAST[what], GREATEST[what])) {
+                    return false;
+                }
+                numbers[what] = value;
             }
-            int spring = value;
-            if (!takeWithin(LEAST[BACK], GREATEST[BACK])) {
-                return false;
-            }
-            int back = value;
-            if (!takeWithin(LEAST[TERM], GREATEST[TERM])) {
-                return false;
-            }
-            return told.add(kind, spring, back, value) && takeStop();
+            return told.add(kind, numbers[SPRING], numbers[BACK], numbers[TERM]);
         }
 
         boolean readLumbago() {
@@ -1137,11 +1140,11 @@ public final class LeapKings {
                 return fail(4, start);
             }
             lumbagoTold = true;
-            if (!takeWithin(0, MOST_LUMBAGO)) {
+            if (!take() || !isNumberWithin(0, MOST_LUMBAGO)) {
                 return false;
             }
             told.lumbago = value;
-            return takeStop();
+            return true;
         }
 
         boolean readWorks() {
@@ -1149,11 +1152,11 @@ public final class LeapKings {
                 return fail(4, start);
             }
             worksTold = true;
-            if (!takeWithin(0, MOST_TOLD_WORKS)) {
+            if (!take() || !isNumberWithin(0, MOST_TOLD_WORKS)) {
                 return false;
             }
             told.works = value;
-            return takeStop();
+            return true;
         }
 
         boolean readFirsts() {
@@ -1187,10 +1190,6 @@ public final class LeapKings {
                 return fail(2, start);
             }
             return within(value, low, high) || fail(3, start);
-        }
-
-        boolean takeWithin(int low, int high) {
-            return take() && isNumberWithin(low, high);
         }
 
         boolean takeStop() {
