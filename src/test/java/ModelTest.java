@@ -4,7 +4,9 @@ import java.util.Random;
 
 /** Runs of calls by fixed seeds, the class held against the model call by call. */
 public final class ModelTest {
-    private static final int RUNS = 600, CALLS = 500;
+    private static final int RUNS = 1200;
+    // An object is used for at most 512 calls; what a text (its bytes, text, fault) and a look at all take of them.
+    private static final int CALLS = 512, TEXT = 250, LOOK = 90;
     private static final int[] ODD = {Integer.MIN_VALUE, Integer.MAX_VALUE, -1, -2, 61, 1000, 128, 255, 256, 65536};
     private static final String[] WORDS = {"plain ", "tall ", "stooped ", "stool ", "line ", "lumbago ", "works "};
 
@@ -12,6 +14,7 @@ public final class ModelTest {
     private final LeapKings x = new LeapKings();
     private final Model y = new Model();
     private final Deque<String> told = new ArrayDeque<>();
+    private int calls;
 
     private ModelTest(long seed) {
         dice = new Random(seed);
@@ -55,7 +58,12 @@ public final class ModelTest {
         return s.toString();
     }
 
+    private boolean hasRoom(int more) {
+        return calls + more <= CALLS;
+    }
+
     private void same(String call, long got, long want) {
+        calls++;
         told.addLast(call + " = " + want);
         if (told.size() > 40) told.removeFirst();
         if (got != want) {
@@ -152,15 +160,16 @@ public final class ModelTest {
     }
 
     private void run() {
-        allTheState();
-        for (int i = 0; i < CALLS; i++) {
+        if (dice.nextInt(10) != 0) tellText();
+        // No change and no question is more than two calls.
+        while (hasRoom(2 + LOOK)) {
             int way = dice.nextInt(100);
-            if (i == 0 || way == 0) tellText();
+            if (way == 0 && hasRoom(TEXT + LOOK)) tellText();
             else if (way < 50) aChange();
             else aQuestion();
-            if (i % 25 == 0) allTheState();
         }
         allTheState();
+        if (!hasRoom(0)) throw new IllegalStateException("an object had " + calls + " calls");
     }
 
     public static void main(String[] args) {
